@@ -707,11 +707,11 @@ public final class PromisesTest {
             pool.begin(SCAN, 0, 0, 0, 0);
             pool.join(1);
             dueElements("one leaf", pool, 0, -TOP, -TOP, -TOP, -TOP, 0, 8, 9, 10);
-            fill(pool, 0, type, TOP, 8, -16, 4);
-            pool.grain(2);
+            fill(pool, 0, type, TOP, 0, 8, -16);
+            pool.grain(1);
             pool.begin(SCAN, 0, 0, 0, 0);
             pool.join(2);
-            dueElements("a base is kept", pool, 0, TOP, TOP, TOP - 16, TOP - 12);
+            dueElements("a base is kept", pool, 0, TOP, TOP, TOP, TOP - 16);
         }
         ForkPool bytes = filled(3, BYTE, 100, 100, 100);
         bytes.grain(1);

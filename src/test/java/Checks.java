@@ -23,6 +23,20 @@ final class Checks {
         part = name;
     }
 
+    /** Runs the test of one sentence of the document; an exception that it does not await is a wrong answer, too. */
+    static void sentence(String words, Runnable test) {
+        part(words);
+        int madeBefore = made;
+        try {
+            test.run();
+        } catch (RuntimeException e) {
+            dueText("the test was stopped by", e.toString(), "nothing");
+        }
+        if (made == madeBefore) {
+            dueText("the test", "no check", "at least one");
+        }
+    }
+
     static void due(String call, long got, long want) {
         dueText(call, Long.toString(got), Long.toString(want));
     }

@@ -1,24 +1,5 @@
 /** Each promise of the document by itself: ordinary inputs, the edges that it names, and wrong inputs. */
-public final class PromisesTest {
-    private static final int BYTE = 0;
-    private static final int SHORT = 1;
-    private static final int INT = 2;
-    private static final int LONG = 3;
-    private static final int FLOAT = 4;
-    private static final int DOUBLE = 5;
-    private static final int SUM = 0;
-    private static final int GREATEST = 1;
-    private static final int SCAN = 2;
-    private static final int SORT = 3;
-    private static final int MAP = 4;
-    private static final int SHARE = 5;
-    private static final int RUNNING = 0;
-    private static final int DONE = 1;
-    private static final int FAILED = 2;
-    /** The greatest float or double, in eighths. */
-    private static final long TOP = 524288;
-    private static final int[] FAR = {Integer.MIN_VALUE, Integer.MAX_VALUE};
-
+public final class PromisesTest extends PoolChecks {
     private PromisesTest() {
     }
 
@@ -58,45 +39,6 @@ public final class PromisesTest {
         shareByType();
         shareFailure();
         Checks.end();
-    }
-
-    private static ForkPool filled(int workers, int type, long... values) {
-        ForkPool pool = new ForkPool(workers);
-        fill(pool, 0, type, values);
-        return pool;
-    }
-
-    private static void fill(ForkPool pool, int array, int type, long... values) {
-        pool.array(array, type, values.length);
-        for (int i = 0; i < values.length; i++) {
-            pool.set(array, i, values[i]);
-        }
-    }
-
-    private static void dueElements(String when, ForkPool pool, int array, long... want) {
-        for (int i = 0; i < want.length; i++) {
-            Checks.due(when + ", get(" + array + ", " + i + ")", pool.get(array, i), want[i]);
-        }
-        Checks.dueThrows(when + ", get behind the end", Checks.NO_SUCH_ELEMENT, () -> pool.get(array, want.length));
-    }
-
-    private static void dueTask(String when, ForkPool pool, int worker, int k, int job, int from, int to) {
-        String call = when + ", task(" + worker + ", " + k + ", ";
-        Checks.due(call + "0)", pool.task(worker, k, 0), job);
-        Checks.due(call + "1)", pool.task(worker, k, 1), from);
-        Checks.due(call + "2)", pool.task(worker, k, 2), to);
-    }
-
-    private static void dueWorker(String when, ForkPool pool, int worker, int... want) {
-        for (int what = 0; what < want.length; what++) {
-            Checks.due(when + ", worker(" + worker + ", " + what + ")", pool.worker(worker, what), want[what]);
-        }
-    }
-
-    private static void dueJob(String when, ForkPool pool, int job, int... want) {
-        for (int what = 0; what < want.length; what++) {
-            Checks.due(when + ", job(" + job + ", " + what + ")", pool.job(job, what), want[what]);
-        }
     }
 
     private static void promise1NewObject() {

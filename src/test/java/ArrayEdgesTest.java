@@ -215,7 +215,8 @@ public final class ArrayEdgesTest extends PoolChecks {
 
     private static void setWithoutArray() {
         for (int array : new int[] {FAR[0], -1, 1, 4, FAR[1]}) {
-            Checks.dueThrows("set(" + array + ", 0, 9)", Checks.NO_SUCH_ELEMENT, () -> withoutArray1().set(array, 0, 9));
+            Checks.dueThrows("set(" + array + ", 0, 9)", Checks.NO_SUCH_ELEMENT,
+                () -> withoutArray1().set(array, 0, 9));
         }
         for (int array : new int[] {0, 2, 3}) {
             Checks.due("set(" + array + ", 0, 9)", withoutArray1().set(array, 0, 9), 9);

@@ -10,8 +10,8 @@ public final class JobEdgesTest extends PoolChecks {
         Checks.sentence("promise 5: no such array", JobEdgesTest::beginWithoutArray);
         Checks.sentence("promise 5: kind not 0 .. 5", JobEdgesTest::kindOutOfRange);
         Checks.sentence("promise 5: worker not 0 .. w - 1", JobEdgesTest::workerOutOfRange);
-        Checks.sentence("promise 5: c not -1000 .. 1000", JobEdgesTest::cOutOfRange);
-        Checks.sentence("promise 5: c or d not -1000 .. 1000", JobEdgesTest::dOutOfRange);
+        Checks.sentence("promise 5: c or d not -1000 .. 1000, c", JobEdgesTest::cOutOfRange);
+        Checks.sentence("promise 5: c or d not -1000 .. 1000, d", JobEdgesTest::dOutOfRange);
         Checks.sentence("promise 5: a job on it is neither DONE nor FAILED", JobEdgesTest::beginUnderJob);
         Checks.sentence("promise 5: or 12 were begun", JobEdgesTest::thirteenthJob);
         Checks.sentence("promise 8: no such job", JobEdgesTest::resultWithoutJob);

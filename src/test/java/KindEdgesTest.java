@@ -1,6 +1,6 @@
 import java.util.Arrays;
 
-/** The boundary cases of what the kinds of jobs come to, under ARRAYS and JOBS; main names the sentence of each test. */
+/** The boundary cases of what jobs come to, under ARRAYS and JOBS; main names the sentence of each test. */
 public final class KindEdgesTest extends PoolChecks {
     private static final int[] GRAINS = {1, 2, 24};
     private static final int[] IN_EIGHTHS = {FLOAT, DOUBLE};
@@ -9,13 +9,15 @@ public final class KindEdgesTest extends PoolChecks {
     }
 
     public static void main(String[] args) {
-        Checks.sentence("ARRAYS: a multiple of an eighth, the greatest that is at most it", KindEdgesTest::keptIsAtMostIt);
+        Checks.sentence("ARRAYS: a multiple of an eighth, the greatest that is at most it",
+            KindEdgesTest::keptIsAtMostIt);
         Checks.sentence("ARRAYS: Calculations are exact before that", KindEdgesTest::calculationsAreExact);
         Checks.sentence("ARRAYS: but for long they wrap", KindEdgesTest::longsWrap);
         Checks.sentence("JOBS: its RESULT is the sum of all elements", KindEdgesTest::sumOfOneAndOfMost);
         Checks.sentence("JOBS: A SUM adds up from the first element on", KindEdgesTest::sumGoesFromTheFirstOn);
-        Checks.sentence("JOBS: every sum on the way is kept as an element is", KindEdgesTest::sumsAreKept);
-        Checks.sentence("JOBS: also of two results", KindEdgesTest::sumsOfTwoResultsAreKept);
+        Checks.sentence("JOBS: every sum on the way", KindEdgesTest::sumsAreKept);
+        Checks.sentence("JOBS: also of two results, is kept as an element is",
+            KindEdgesTest::sumsOfTwoResultsAreKept);
         Checks.sentence("JOBS: the greatest element", KindEdgesTest::greatestAtEachPlace);
         Checks.sentence("JOBS: element k becomes the sum of the elements 0 to k", KindEdgesTest::scanOfOneAndOfMost);
         Checks.sentence("JOBS: each sum and partial sum kept as an element is", KindEdgesTest::scanKeepsEachSum);

@@ -38,24 +38,29 @@ public final class RefusalsTest extends PoolChecks {
         Checks.sentence("promise 4: NoSuchElementException", RefusalsTest::getRange);
         Checks.sentence("promise 5: NoSuchElementException", RefusalsTest::beginWithoutArray);
         Checks.sentence("promise 5: IllegalArgumentException", RefusalsTest::beginRange);
-        Checks.sentence("promise 5: IllegalStateException, a job on it", RefusalsTest::beginState);
-        Checks.sentence("promise 5: IllegalStateException, 12 were begun", RefusalsTest::beginThirteenth);
-        Checks.sentence("promise 5: NoSuchElementException first", RefusalsTest::beginArrayFirst);
+        Checks.sentence("promise 5: IllegalStateException: a job on it is neither DONE nor FAILED",
+            RefusalsTest::beginState);
+        Checks.sentence("promise 5: or 12 were begun", RefusalsTest::beginThirteenth);
+        Checks.sentence("promise 5: NoSuchElementException before the other two", RefusalsTest::beginArrayFirst);
         Checks.sentence("promise 5: IllegalArgumentException before IllegalStateException", RefusalsTest::beginOrder);
         Checks.sentence("promise 6: IllegalArgumentException", RefusalsTest::stepRange);
         Checks.sentence("promise 7: NoSuchElementException", RefusalsTest::joinWithoutJob);
         Checks.sentence("promise 7: ArithmeticException of a job that has FAILED before", RefusalsTest::joinOfFailed);
-        Checks.sentence("promise 7: (then, too, the steps have been made): but where told", RefusalsTest::joinThatFails);
+        Checks.sentence("promise 7: (then, too, the steps have been made): but where told",
+            RefusalsTest::joinThatFails);
         Checks.sentence("promise 8: NoSuchElementException", RefusalsTest::resultWithoutJob);
-        Checks.sentence("promise 8: UnsupportedOperationException before IllegalStateException", RefusalsTest::resultOrder);
+        Checks.sentence("promise 8: UnsupportedOperationException before IllegalStateException",
+            RefusalsTest::resultOrder);
         Checks.sentence("promise 8: IllegalStateException", RefusalsTest::resultState);
         Checks.sentence("promise 9: NoSuchElementException", RefusalsTest::cancelWithoutJob);
         Checks.sentence("promise 9: IllegalStateException", RefusalsTest::cancelState);
         Checks.sentence("promise 10: NoSuchElementException before IllegalArgumentException", RefusalsTest::jobOrder);
         Checks.sentence("promise 10: IllegalArgumentException", RefusalsTest::jobWhat);
-        Checks.sentence("promise 11: NoSuchElementException before IllegalArgumentException", RefusalsTest::taskOrder);
+        Checks.sentence("promise 11: NoSuchElementException before IllegalArgumentException",
+            RefusalsTest::taskOrder);
         Checks.sentence("promise 11: IllegalArgumentException", RefusalsTest::taskWhat);
-        Checks.sentence("promise 12: NoSuchElementException before IllegalArgumentException", RefusalsTest::workerOrder);
+        Checks.sentence("promise 12: NoSuchElementException before IllegalArgumentException",
+            RefusalsTest::workerOrder);
         Checks.sentence("promise 12: IllegalArgumentException", RefusalsTest::workerWhat);
         Checks.sentence("promise 13: IllegalArgumentException", RefusalsTest::grainRange);
         Checks.sentence("promise 14: IllegalArgumentException", RefusalsTest::countRange);

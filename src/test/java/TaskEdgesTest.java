@@ -1,26 +1,33 @@
-/** The boundary cases of promise 13, of the words under TASKS and of a FAILURE; main names the sentence of each test. */
+/** The boundary cases of promises 13 and 15, of TASKS and of FAILURE; main names the sentence of each test. */
 public final class TaskEdgesTest extends PoolChecks {
     private TaskEdgesTest() {
     }
 
     public static void main(String[] args) {
-        Checks.sentence("promise 13: Sets the grain (1 .. 24)", TaskEdgesTest::grainOutOfRange);
+        Checks.sentence("promise 13: IllegalArgumentException: out of range", TaskEdgesTest::grainOutOfRange);
         Checks.sentence("promise 13: answers the one before", TaskEdgesTest::grainAnswersTheOneBefore);
         Checks.sentence("TASKS: 4 at first", TaskEdgesTest::grainIsFourAtFirst);
         Checks.sentence("TASKS: one task, for its whole array, 0 to length", TaskEdgesTest::firstTaskIsWhole);
-        Checks.sentence("TASKS: if to - from is above the GRAIN it FORKS", TaskEdgesTest::forksAboveTheGrain);
+        Checks.sentence("TASKS: if to - from is above the GRAIN", TaskEdgesTest::forksAboveTheGrain);
         Checks.sentence("TASKS: as it is when the task is done", TaskEdgesTest::grainOfTheMoment);
         Checks.sentence("TASKS: m = (from + to) / 2, rounded down", TaskEdgesTest::middleIsRoundedDown);
-        Checks.sentence("TASKS: the second one, then the first one is put at the TOP", TaskEdgesTest::firstIsAtTheTop);
-        Checks.sentence("TASKS: Else it is a LEAF: its part is done at once", TaskEdgesTest::leafIsDoneAtOnce);
-        Checks.sentence("TASKS: When both are over, they are joined at once", TaskEdgesTest::joinedWhenBothAreOver);
-        Checks.sentence("TASKS: When the first task of all is over, the job is DONE", TaskEdgesTest::doneWithTheFirstTask);
-        Checks.sentence("TASKS: SCAN: when the first task is over, the second round begins", TaskEdgesTest::secondRound);
-        Checks.sentence("TASKS: SCAN: at the top of the queue of the worker that ended it", TaskEdgesTest::endersQueue);
+        Checks.sentence("TASKS: the second one, then the first one is put at the TOP",
+            TaskEdgesTest::firstIsAtTheTop);
+        Checks.sentence("TASKS: Else it is a LEAF: its part of the work is done at once, and it is over",
+            TaskEdgesTest::leafIsDoneAtOnce);
+        Checks.sentence("TASKS: When both tasks of one are over, what they come to is joined at once",
+            TaskEdgesTest::joinedWhenBothAreOver);
+        Checks.sentence("TASKS: When the first task of all is over, the job is DONE",
+            TaskEdgesTest::doneWithTheFirstTask);
+        Checks.sentence("TASKS: SCAN: when the first task is over, the second round begins",
+            TaskEdgesTest::secondRound);
+        Checks.sentence("TASKS: SCAN: at the top of the queue of the worker that ended it",
+            TaskEdgesTest::endersQueue);
         Checks.sentence("TASKS: SCAN: forks likewise (whatever the grain is now)", TaskEdgesTest::forksLikewise);
         Checks.sentence("TASKS: SCAN: the base plus the result of the first", TaskEdgesTest::basesOfTheParts);
         Checks.sentence("TASKS: SCAN: The second round's end is the job's", TaskEdgesTest::secondRoundsEnd);
-        Checks.sentence("FAILURE: the elements before it in the leaf are changed", TaskEdgesTest::changedBeforeFailure);
+        Checks.sentence("FAILURE: the elements before it in the leaf are changed",
+            TaskEdgesTest::changedBeforeFailure);
         Checks.sentence("FAILURE: the job has FAILED at the element's index", TaskEdgesTest::failedAtItsIndex);
         Checks.sentence("FAILURE: all its tasks are taken out of all queues", TaskEdgesTest::failureTakesTasksOut);
         Checks.sentence("promise 15: counted as done as soon as it is taken and done", TaskEdgesTest::countedAtOnce);

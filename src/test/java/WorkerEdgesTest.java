@@ -1,11 +1,13 @@
 /** The boundary cases of promises 6, 7, 11, 12 and 14 and of WORKERS; main names the sentence of each test. */
 public final class WorkerEdgesTest extends PoolChecks {
+    private static final int CALLS_OF_ONE_OBJECT = 512;
+
     private WorkerEdgesTest() {
     }
 
     public static void main(String[] args) {
-        Checks.sentence("promise 6: Makes n (1 .. 60) steps", WorkerEdgesTest::stepsOutOfRange);
-        Checks.sentence("promise 6: makes as many as it is told", WorkerEdgesTest::stepMakesThatMany);
+        Checks.sentence("promise 6: IllegalArgumentException: out of range", WorkerEdgesTest::stepsOutOfRange);
+        Checks.sentence("promise 6: Makes n (1 .. 60) steps", WorkerEdgesTest::stepMakesThatMany);
         Checks.sentence("promise 6: answers how many of them were not idle", WorkerEdgesTest::stepAnswersBusyOnes);
         Checks.sentence("promise 7: Makes steps until the job is DONE or FAILED", WorkerEdgesTest::joinEndsInTime);
         Checks.sentence("promise 7: answers how many", WorkerEdgesTest::joinAnswersHowMany);
@@ -13,11 +15,14 @@ public final class WorkerEdgesTest extends PoolChecks {
         Checks.sentence("promise 7: it has FAILED", WorkerEdgesTest::joinOfFailedJob);
         Checks.sentence("promise 7: (then, too, the steps have been made)", WorkerEdgesTest::joinFailsAfterItsSteps);
         Checks.sentence("WORKERS: in order 0, 1, .., w - 1, 0, ..", WorkerEdgesTest::turnsGoAround);
-        Checks.sentence("WORKERS: with a task in its queue it takes the one at the top", WorkerEdgesTest::ownTopFirst);
-        Checks.sentence("WORKERS: else, if there is one in another's queue, it STEALS", WorkerEdgesTest::stealsWhenEmpty);
+        Checks.sentence("WORKERS: with a task in its queue it takes the one at the top",
+            WorkerEdgesTest::ownTopFirst);
+        Checks.sentence("WORKERS: else, if there is one in another's queue, it STEALS",
+            WorkerEdgesTest::stealsWhenEmpty);
         Checks.sentence("WORKERS: v being its VICTIM (at first itself)", WorkerEdgesTest::victimIsItselfAtFirst);
         Checks.sentence("WORKERS: of the workers v + 1, v + 2, .. around", WorkerEdgesTest::victimGoesAround);
-        Checks.sentence("WORKERS: the first one with a task is its victim from then on", WorkerEdgesTest::victimStays);
+        Checks.sentence("WORKERS: the first one with a task is its victim from then on",
+            WorkerEdgesTest::victimStays);
         Checks.sentence("WORKERS: it takes the task at the BOTTOM of that queue", WorkerEdgesTest::stealsTheBottom);
         Checks.sentence("WORKERS: else it is IDLE", WorkerEdgesTest::idleWithoutAnyTask);
         Checks.sentence("promise 11: from 0, the top", WorkerEdgesTest::placesFromTheTop);
@@ -25,7 +30,8 @@ public final class WorkerEdgesTest extends PoolChecks {
         Checks.sentence("promise 11: no such worker or task", WorkerEdgesTest::taskOutOfRange);
         Checks.sentence("promise 11: another what", WorkerEdgesTest::taskOfAnotherWhat);
         Checks.sentence("promise 12: tasks in its queue (0)", WorkerEdgesTest::queueFromEmptyToLongest);
-        Checks.sentence("promise 12: tasks done (1), of these stolen (2), idle steps (3)", WorkerEdgesTest::workersCounts);
+        Checks.sentence("promise 12: tasks done (1), of these stolen (2), idle steps (3)",
+            WorkerEdgesTest::workersCounts);
         Checks.sentence("promise 12: no such worker", WorkerEdgesTest::workerOutOfRange);
         Checks.sentence("promise 12: another what", WorkerEdgesTest::workerOfAnotherWhat);
         Checks.sentence("promise 14: Jobs begun (0)", WorkerEdgesTest::countsJobs);
@@ -402,6 +408,11 @@ public final class WorkerEdgesTest extends PoolChecks {
         Checks.due("none of a join of a DONE job", pool.count(1), 3);
         pool.step(60);
         Checks.due("idle ones, too", pool.count(1), 63);
+        ForkPool most = new ForkPool(1);
+        for (int call = 1; call < CALLS_OF_ONE_OBJECT; call++) {
+            most.step(60);
+        }
+        Checks.due("as many as an object's calls can make", most.count(1), 60 * (CALLS_OF_ONE_OBJECT - 1));
     }
 
     private static void countsTurns() {

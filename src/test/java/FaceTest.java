@@ -1,11 +1,13 @@
 import java.io.IOException;
-import java.lang.reflect.Constructor;
+import java.lang.reflect.Executable;
 import java.lang.reflect.Field;
 import java.lang.reflect.Method;
 import java.lang.reflect.Modifier;
 import java.nio.file.Files;
 import java.nio.file.Path;
+import java.util.ArrayList;
 import java.util.Arrays;
+import java.util.List;
 import java.util.Set;
 import java.util.TreeSet;
 import java.util.regex.Matcher;
@@ -32,6 +34,8 @@ public final class FaceTest {
     };
     private static final String[] FORBIDDEN = {"->", "::", "\\bsynchronized\\b", "\\bassert\\b", "\\bfinally\\b",
         "\\bstatic \\{", "\\bpackage\\b", "\\bprotected\\b", "\\bMath\\.\\w+Exact\\b", "\\bSystem\\.(?!arraycopy)"};
+    private static final String THROWN = " new (IllegalState|IllegalArgument|Arithmetic|UnsupportedOperation|"
+        + "NoSuchElement)Exception\\((\"\")?\\)";
     private static final Set<String> IMPORTS = Set.of("java.util.ArrayList", "java.util.List", "java.util.Arrays",
         "java.util.Iterator", "java.util.NoSuchElementException");
 
@@ -42,6 +46,7 @@ public final class FaceTest {
         faceIsTheDocuments();
         nothingElseIsVisible();
         staticFieldsAreConstants();
+        classesStaySmall();
         sourceKeepsToTheLanguage();
         Checks.end();
     }
@@ -100,14 +105,25 @@ public final class FaceTest {
                 Checks.dueText(field + " is final", Boolean.toString(Modifier.isFinal(field.getModifiers())), "true");
             }
         }
+    }
+
+    private static void classesStaySmall() {
         Checks.part("rule 11");
-        Class<?>[] inside = ForkPool.class.getDeclaredClasses();
-        Checks.dueText("at most twelve classes", Boolean.toString(inside.length < 12), "true");
-        for (Class<?> owner : inside) {
-            for (Constructor<?> constructor : owner.getDeclaredConstructors()) {
-                Checks.dueText(constructor + " takes at most seven",
-                    Boolean.toString(constructor.getParameterCount() <= 7), "true");
-            }
+        List<Class<?>> classes = new ArrayList<>(List.of(ForkPool.class.getDeclaredClasses()));
+        classes.add(ForkPool.class);
+        Checks.dueText("at most twelve classes", Boolean.toString(classes.size() <= 12), "true");
+        for (Class<?> owner : classes) {
+            long fields = Arrays.stream(owner.getDeclaredFields())
+                .filter(field -> !Modifier.isStatic(field.getModifiers())).count();
+            Checks.dueText(owner + " has at most twenty fields", Boolean.toString(fields <= 20), "true");
+            takesAtMostSeven(owner.getDeclaredConstructors());
+            takesAtMostSeven(owner.getDeclaredMethods());
+        }
+    }
+
+    private static void takesAtMostSeven(Executable[] members) {
+        for (Executable member : members) {
+            Checks.dueText(member + " takes at most seven", Boolean.toString(member.getParameterCount() <= 7), "true");
         }
     }
 
@@ -119,10 +135,17 @@ public final class FaceTest {
             Checks.dueText(forbidden + " in the code", Boolean.toString(Pattern.compile(forbidden).matcher(code).find()),
                 "false");
         }
+        Checks.part("rule 6");
+        Matcher thrown = Pattern.compile("\\bthrow\\b([^;]*);").matcher(code);
+        while (thrown.find()) {
+            Checks.dueText("throw" + thrown.group(1), Boolean.toString(thrown.group(1).matches(THROWN)), "true");
+        }
+        Checks.part("rule 4");
         Matcher imports = Pattern.compile("import ([^;]*);").matcher(code);
         while (imports.find()) {
             Checks.dueText("import " + imports.group(1), Boolean.toString(IMPORTS.contains(imports.group(1))), "true");
         }
+        Checks.part("rule 3");
         for (char character : source.toCharArray()) {
             if (character > 255) {
                 Checks.dueText("character of the source", Integer.toString(character), "at most 255");
